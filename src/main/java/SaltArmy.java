@@ -251,7 +251,7 @@ public final class SaltArmy {
         if (what < 0 || what > 1 || !findsJourney(company, to)) {
             return HIDDEN;
         }
-        int hours = travel.bestWait();
+        int hours = travel.bestWait(travel.bestRow(Travel.BY_HOURS));
         return what == 0 ? hours : travel.meanOfWait;
     }
 
@@ -503,7 +503,8 @@ public final class SaltArmy {
             if (sign() != sign) {
                 return false;
             }
-            pass();
+            at++;
+            skipBlanks();
             return true;
         }
 
@@ -1170,7 +1171,7 @@ public final class SaltArmy {
         }
 
         boolean isAtPlace(int company) {
-            return lives(company) && of(company, LEFT) == 0;
+            return hasCompany(company) && of(company, GRAINS) > 0 && of(company, LEFT) == 0;
         }
 
         int lossByRain(Land land, Laws laws, int company) {
@@ -1742,8 +1743,7 @@ public final class SaltArmy {
         }
 
         /** Leaves the mean of the best wait in meanOfWait. */
-        int bestWait() {
-            int row = bestRow(BY_HOURS);
+        int bestWait(int row) {
             int best = 0;
             putAll(aside);
             for (int waited = 0; waited <= MOST_WAIT; waited++) {

@@ -45,8 +45,11 @@ public final class AsksTest {
         }
         c.due("there are 16", x.sky(1, 1, false), NONE);
         c.due("nothing was told", x.best(0, 1, 0, 0), 49000);
-        SaltArmy y = Checks.land("p;p;c");
-        c.due("24", y.sky(1, 24, false), 1);
+        SaltArmy y = Checks.land("pr0;pr0;pr0;pr0;wt9;wa1b2t9;wa2b3t9;cg50w1");
+        c.due("24", y.sky(3, 24, true), 1);
+        c.due("in the last hour that is told of", y.best(0, 3, 0, 0), 49000);
+        c.due("elsewhere then", y.sky(2, 23, true), 2);
+        c.due("elsewhere then", y.best(0, 3, 0, 0), 49000);
     }
 
     private static void journeys() {

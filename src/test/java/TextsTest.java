@@ -59,6 +59,11 @@ public final class TextsTest {
         c.due("one more", x.feed(0, 0, 0, 0, 0x3b), 240);
         c.due("none more", x.feed(0, 0, 0, 0, 0), 240);
         c.due("one is too many", x.feed(0, 0, 1, 0, 0), NONE);
+        c.due("one is too many", x.feed(1, 0, 0, 0, 0), NONE);
+        c.due("one is too many", x.feed(0, 1, 0, 0, 0), NONE);
+        c.due("one is too many", x.feed(0, 0, 0, 1, 0), NONE);
+        c.due("one is too many", x.feed(0, 0, 0, 0, 1), NONE);
+        c.due("still", x.count(6), 240);
     }
 
     private static void landFault(String text, int want) {
@@ -81,6 +86,10 @@ public final class TextsTest {
         landFault("ph;p;c", 2);
         landFault("ph h1;p;c", 3);
         landFault("ph9k1r99s9;ph09k01r00s00;cp1g99w9m3q15", NONE);
+        landFault("ph0k0r0s0;p;wa0b1t1f0;cp0g1w0m0q0;fp0b0", NONE);
+        landFault("p;p;c;wb0a1", NONE);
+        landFault("p;p;c;wa8b1", 8);
+        landFault("p;p;c;fp8", 8);
         landFault("ph10;p;c", 3);
         landFault("ph 1 0;p;c", 5);
         landFault("ph123;p;c", 4);
@@ -242,6 +251,12 @@ public final class TextsTest {
         c.due("tape stays", x.count(6), 3);
         c.due("no such text", x.text(-1), NONE);
         c.due("no such text", x.text(3), NONE);
+        x.end(0);
+        Checks.feed(x, "r");
+        c.due("no such text, though there are such orders", x.text(3), NONE);
+        c.due("no such text, though there are such orders", x.text(-1), NONE);
+        c.due("no such fault, though there are such orders", x.fault(3), -2);
+        c.due("tape stays", x.count(6), 1);
         for (int i = 0; i < 4; i++) {
             c.due("law", Checks.text(x, 1, "y:1"), i);
             c.due("tape empty", x.count(6), 0);
