@@ -272,6 +272,35 @@ public final class ActBoundsTest {
         c.due("nothing of that lies there then", x.spot(0, 5), 0);
     }
 
+    private static void promise15WhereItLay() {
+        for (int place = 0; place < 8; place++) {
+            for (int other = 0; other < 8; other++) {
+                if (other != place) {
+                    castBeside(place, other);
+                }
+            }
+        }
+    }
+
+    private static void castBeside(int place, int other) {
+        SaltArmy x = Checks.land("p;p;p;p;p;p;p;p;wt9;cg5q6p" + place + ";cg4q9p" + other);
+        x.hour(255);
+        for (int empty = 0; empty < 8; empty++) {
+            if (empty != place && empty != other) {
+                c.due("nothing lies at " + empty, x.cast(empty, 0), NONE);
+            }
+        }
+        c.due("cast at " + place, x.cast(place, 3), 2);
+        int[] want = {place, 0, 5, 5, 3, 6};
+        for (int what = 0; what < 6; what++) {
+            c.due("cast at " + place + ": " + what, Checks.company(x, 2, what), want[what]);
+        }
+        for (int spot = 0; spot < 8; spot++) {
+            c.due("ground " + spot, x.spot(spot, 4), spot == other ? 4 : 0);
+            c.due("known " + spot, x.spot(spot, 5), spot == other ? 9 : 0);
+        }
+    }
+
     private static void promise15TheRestKnowsNothing() {
         SaltArmy x = Checks.land("p;p;cg99w0;cg99w0;cg9w9q7");
         x.join(0, 1);

@@ -188,6 +188,50 @@ public final class JourneyBoundsTest {
         c.due("mean, cut", z.best(0, 1, 0, 0), mean / 1000000);
     }
 
+    /** Of ten parts that are left one is wet at 10 of 100, none at 9. */
+    private static void promise24APartOfOne() {
+        c.due("one of ten", Checks.land("p;pr99;pr10;wt4;wa1b2;cg1w1").best(0, 2, 0, 1), 9);
+        c.due("none of ten", Checks.land("p;pr99;pr9;wt4;wa1b2;cg1w1").best(0, 2, 0, 1), 10);
+    }
+
+    private static int meanBy(String law, int company) {
+        SaltArmy x = Checks.landWithLaw("ph1k1;ph7;wt3;cg50w2m1;cg40w8m3", law);
+        for (int hour = 1; hour <= 3; hour++) {
+            x.sky(1, hour, true);
+        }
+        return x.best(company, 1, 0, 0);
+    }
+
+    private static void promise24TheLettersOnAJourney() {
+        c.due("g", meanBy("y:g/10", 0), 50000 - 5000 - 4000 - 4000);
+        c.due("g of the other", meanBy("y:g/10", 1), 40000 - 4000 - 3000 - 3000);
+        c.due("w", meanBy("y:w", 0), 50000 - 6000);
+        c.due("w of the other", meanBy("y:w", 1), 40000 - 24000);
+        c.due("h of the place it goes to", meanBy("y:h", 0), 50000 - 21000);
+        c.due("m", meanBy("y:m", 0), 50000 - 3000);
+        c.due("m of the other", meanBy("y:m", 1), 40000 - 9000);
+        c.due("t, 0 in the first hour", meanBy("y:t", 0), 50000 - 3000);
+    }
+
+    /** By the hour in which it is asked: t goes on from there, the sky begins anew. */
+    private static void promise24TheHourInWhichItIsAsked() {
+        for (int gone = 0; gone <= 8; gone++) {
+            SaltArmy x = Checks.landWithLaw("pk1r0;pk1r0;wt2;cg99", "y:t");
+            x.sky(1, 1, true);
+            x.sky(1, 2, true);
+            x.streak(1, gone + 1);
+            for (int hour = 0; hour < gone; hour++) {
+                x.hour(0);
+            }
+            c.due("mean in hour " + gone, x.best(0, 1, 0, 0), 99000 - (gone + gone + 1) * 1000);
+            c.due("waits in hour " + gone, x.waits(0, 1, 0), 2);
+            c.due("mean of waiting in hour " + gone, x.waits(0, 1, 1), 99000);
+            c.due("ambush in hour " + gone, x.ambush(0, 1, 0), 89000 - (gone + gone + 1) * 1000);
+            c.due("sets in hour " + gone, x.rained(0, 1, NONE), gone == 0 ? 2 : 1);
+            c.due("the second hour alone", x.rained(0, 1, 0), 2);
+        }
+    }
+
     private static void promise24OfSeveralTheFirst() {
         SaltArmy x = Checks.land("p;pr0;pr0;pr0;wb2;wb1;wa2b3;wa1b3;c");
         for (int sort = 0; sort < 3; sort++) {

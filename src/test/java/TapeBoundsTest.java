@@ -294,6 +294,34 @@ public final class TapeBoundsTest {
         }
     }
 
+    /** What was read of a text with a fault is not there any more when the next one is read. */
+    private static void promise05ATextBehindAFault() {
+        String[] laws = {"y:9+", "y:g=1", "y:g>1?3;y:", "y:1=1&2=2|", "y:5;", "y:[[[[[[[1]]]]]]]"};
+        int[] faults = {4, 5, 10, 10, 4, 8};
+        for (int i = 0; i < laws.length; i++) {
+            SaltArmy x = Checks.land(Scenes.LAND);
+            c.due("fault of " + laws[i], Checks.fault(x, 1, laws[i]), faults[i]);
+            c.due("text of " + laws[i], x.text(1), NONE);
+            c.due("law behind " + laws[i], Checks.text(x, 1, "y:w-3"), 0);
+            x.law(0);
+            c.due("wear behind " + laws[i], x.wear(0), 2);
+        }
+        SaltArmy x = new SaltArmy();
+        c.due("fault of orders", Checks.fault(x, 2, "m12;j34;d5;"), 11);
+        c.due("orders behind it", Checks.text(x, 2, "r"), 0);
+        c.due("their step", x.step(0, 0, 0), 4);
+        c.due("it has no digits", x.step(0, 0, 1), NONE);
+        c.due("no second step", x.step(0, 1, 0), NONE);
+        c.due("fault of a land", Checks.fault(x, 0, "ph9;pr9;p;wt9;cg9;fb9;"), 22);
+        c.due("no land yet", x.count(0), 0);
+        c.due("land behind it", Checks.text(x, 0, "p;p;c"), 1);
+        c.due("two places", x.count(0), 2);
+        c.due("no way, no foe", x.count(1) + x.count(3), 0);
+        c.due("its height", x.spot(0, 0), 0);
+        c.due("its rain", x.spot(1, 2), 20);
+        c.due("its grains", Checks.grains(x, 0), 50);
+    }
+
     private static void promise05TheTapeIsEmptyThen() {
         String[] texts = {"p;p;c", "y:1", "r"};
         for (int sort = 0; sort < 3; sort++) {
