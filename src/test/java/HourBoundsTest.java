@@ -179,6 +179,30 @@ public final class HourBoundsTest {
         c.due("nobody there", nobody.foe(0, 1), 2);
     }
 
+    /** What lies and is known at the last place and the buckets of each foe are their own. */
+    private static void promise16TheEighthPlaceAndTheFoes() {
+        for (int foe = 0; foe < 3; foe++) {
+            StringBuilder foes = new StringBuilder();
+            for (int i = 0; i < 3; i++) {
+                foes.append(i == foe ? ";fb8p7" : ";fb7p" + i);
+            }
+            SaltArmy x = Checks.land("p;p;p;p;p;p;p;p;cp7g5q15;cp6g99q1;cp0g3q8" + foes);
+            x.hour(255);
+            c.due("known at 7", x.spot(7, 5), 15);
+            c.due("ground of 7", x.spot(7, 4), 5);
+            c.due("known at 0", x.spot(0, 5), 8);
+            c.due("ground of 0", x.spot(0, 4), 3);
+            c.due("ground of 6", x.spot(6, 4), 5);
+            c.due("nothing is known at 6", x.spot(6, 5), 0);
+            for (int i = 0; i < 3; i++) {
+                c.due("nobody was there for foe " + i, x.foe(i, 1), i == foe ? 8 : 7);
+            }
+            c.due("river", x.count(10), 0);
+            c.due("dug", x.count(11), 0);
+            c.due("who lives", x.count(9), 1);
+        }
+    }
+
     private static void promise16DewInEachSixthHour() {
         SaltArmy x = Checks.land("p;pk1;cg20;cp1g20");
         int left = 20;

@@ -229,6 +229,16 @@ public final class LawBoundsTest {
         worth("y:9+1*[8-1*[7+1*[6-1*[5+1*[4-1*[3]]]]]]", 9 + 8 - (7 + 6 - (5 + 4 - 3)));
     }
 
+    /** Nothing of a sign, of a condition or of a clause stays behind it. */
+    private static void promise04TheLongestLawsAreReckoned() {
+        worth("y:" + Checks.repeat("!1=2&", 46) + "1=1?9", 9);
+        worth("y:" + Checks.repeat("!1=1|", 45) + "1=2?9;y:8", 8);
+        worth(Checks.repeat("y:!1=1?1;", 26) + "y:7", 7);
+        worth(Checks.repeat("y:1=2?1;", 29) + "y:7", 7);
+        worth(Checks.repeat("y:(1=2)?1;", 23) + "y:6", 6);
+        worth("y:" + Checks.repeat("[1]+", 59) + "1", 60);
+    }
+
     // ---- numbers
 
     private static void promise11NumbersUpToAMillion() {

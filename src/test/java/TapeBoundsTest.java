@@ -101,6 +101,19 @@ public final class TapeBoundsTest {
         }
     }
 
+    private static void promise02EachByteFrom1To255IsOneMoreThan240() {
+        SaltArmy x = withBytes(240);
+        for (int sign = 1; sign < 256; sign++) {
+            c.due("byte " + sign + " on a full tape", x.feed(0, 0, sign << 8 * (sign % 4), 0, 0), NONE);
+            c.due("it did not come", x.count(6), 240);
+        }
+        for (int sign = 1; sign < 256; sign++) {
+            SaltArmy y = withBytes(239);
+            c.due("byte " + sign + " and another on 239", y.feed(sign, sign << 24, 0, 0, 0), NONE);
+            c.due("byte " + sign + " on 239", y.feed(0, 0, 0, 0, sign << 16), 240);
+        }
+    }
+
     private static void promise02NoneOfARefusedFeedsBytesComes() {
         SaltArmy x = withBytes(230);
         c.due("eleven more than 230", x.feed(0x3b3b3b3b, 0x3b3b3b3b, 0x3b3b3b00, 0, 0), NONE);
